@@ -14,6 +14,7 @@ public final class ReaderTest {
         eachEventCounts();
         snapshotsCount();
         heldEventsCount();
+        thirtyHeldEventsFollow();
         readersAreApart();
         check.end();
     }
@@ -243,6 +244,31 @@ public final class ReaderTest {
         check.due("the snapshot, as empty as the book", x.hearSnapshot(1, 0, 0), 1);
         check.due("the held ones followed", x.at(0, 0), 3);
         check.due("dirty by the first of them", x.dirty(0), 1);
+    }
+
+    private static void thirtyHeldEventsFollow() {
+        FeedDesk x = new FeedDesk();
+        Feeds.clears(x, 0, 1);
+        x.snapshotTurn();
+        Feeds.fullPackets(x, 0, 5);
+        for (int i = 0; i < 4; i++) {
+            x.clear(0);
+        }
+        x.add(0, 1, 0, 10, 5);
+        x.publish();
+        Feeds.fullPackets(x, 1, 8);
+        for (int packet = 2; packet <= 7; packet++) {
+            x.line(0, packet, 0);
+        }
+        x.askReplay(0);
+        check.due("too old", x.serveReplay(0), 2);
+        check.due("thirty are held", x.receiver(0, 3), 30);
+        check.due("the snapshot of event 1", x.hearSnapshot(1, 0, 0), 1);
+        check.due("all thirty followed", x.at(0, 0), 31);
+        check.due("none is held", x.receiver(0, 3), 0);
+        check.due("the last of them is not missed", x.dirty(0), 1);
+        check.due("read", x.read(0), 0);
+        check.due("its price", x.view(0, 0, 0, 0), 10);
     }
 
     private static void readersAreApart() {

@@ -7,6 +7,7 @@ public final class ReceiverTest {
         firstCopyCounts();
         keptPacketsFollow();
         windowOfSix();
+        eachPacketIsKeptApart();
         droppedCountAsHeard();
         receiversAreApart();
         eventsUpToAtAreNothing();
@@ -95,6 +96,31 @@ public final class ReceiverTest {
         check.due("packet 8", x.line(0, 8, 0), 1);
         check.due("15 is NEXT + 6 now", x.line(0, 15, 0), 2);
         check.due("two are kept", x.receiver(0, 2), 2);
+        check.due("16 was never heard", x.receiver(0, 1), 15);
+        for (int packet = 10; packet <= 13; packet++) {
+            check.due("line of " + packet, x.line(1, packet, 0), 2);
+        }
+        check.due("packet 9", x.line(1, 9, 0), 1);
+        check.due("NEXT", x.receiver(0, 0), 16);
+        for (int packet = 17; packet <= 20; packet++) {
+            check.due("line of " + packet, x.line(1, packet, 0), 2);
+            check.due("kept", x.receiver(0, 2), packet - 16);
+        }
+    }
+
+    private static void eachPacketIsKeptApart() {
+        for (int packet = 2; packet <= 12; packet++) {
+            FeedDesk x = new FeedDesk();
+            Feeds.clears(x, 0, 13);
+            for (int heard = 1; heard < packet - 1; heard++) {
+                x.line(0, heard, 0);
+            }
+            check.due("early: " + packet, x.line(0, packet, 0), 2);
+            check.due("one is kept", x.receiver(0, 2), 1);
+            check.due("the one ahead", x.line(0, packet - 1, 0), 1);
+            check.due("none is kept", x.receiver(0, 2), 0);
+            check.due("NEXT", x.receiver(0, 0), packet + 1);
+        }
     }
 
     private static void droppedCountAsHeard() {

@@ -5,6 +5,7 @@ public final class ReplayTest {
     public static void main(String[] args) {
         wrongNumbers();
         gapAheadOfKept();
+        gapAheadOfTheFarthestKept();
         gapUpToHighest();
         askedOnce();
         newAskForgetsTheOld();
@@ -16,6 +17,7 @@ public final class ReplayTest {
         onlyTheRestMustBeYoung();
         tooOldGoesOn();
         tooOldForgetsWhatIsKeptInTheGap();
+        tooOldForgetsToTheGapsEnd();
         tooOldTwice();
         check.end();
     }
@@ -48,6 +50,18 @@ public final class ReplayTest {
         check.due("packet 8 was never heard of", x.askReplay(0), 0);
         check.due("HIGHEST", x.receiver(0, 1), 7);
         check.due("sound", x.sound(0, 0), 1);
+    }
+
+    private static void gapAheadOfTheFarthestKept() {
+        FeedDesk x = new FeedDesk();
+        Feeds.clears(x, 0, 9);
+        x.line(0, 9, 0);
+        x.line(0, 7, 0);
+        check.due("1 to 6, though 9 was heard", x.askReplay(0), 6);
+        check.due("they come", x.serveReplay(0), 1);
+        check.due("7 follows", x.receiver(0, 0), 8);
+        check.due("the dropped one is not kept", x.line(0, 9, 0), 2);
+        check.due("packet 8", x.askReplay(0), 1);
     }
 
     private static void gapUpToHighest() {
@@ -224,6 +238,30 @@ public final class ReplayTest {
         check.due("NEXT stays", x.receiver(0, 0), 5);
         check.due("5 is passed, and no more", x.line(0, 5, 0), 1);
         check.due("NEXT", x.receiver(0, 0), 6);
+    }
+
+    private static void tooOldForgetsToTheGapsEnd() {
+        for (int kept = 2; kept <= 7; kept++) {
+            FeedDesk x = new FeedDesk();
+            Feeds.fullPackets(x, 0, 30);
+            x.line(0, 8, 0);
+            check.due("1 to 8", x.askReplay(0), 8);
+            x.line(0, kept, 0);
+            check.due("one is kept", x.receiver(0, 2), 1);
+            check.due("too old", x.serveReplay(0), 2);
+            check.due("NEXT", x.receiver(0, 0), 9);
+            check.due("none is kept", x.receiver(0, 2), 0);
+            check.due("none is held", x.receiver(0, 3), 0);
+        }
+        FeedDesk y = new FeedDesk();
+        Feeds.fullPackets(y, 0, 30);
+        y.line(0, 4, 0);
+        check.due("1 to 3", y.askReplay(0), 3);
+        y.line(0, 3, 0);
+        check.due("too old", y.serveReplay(0), 2);
+        check.due("4 follows", y.receiver(0, 0), 5);
+        check.due("none is kept", y.receiver(0, 2), 0);
+        check.due("only the events of 4 are held", y.receiver(0, 3), 5);
     }
 
     private static void tooOldTwice() {

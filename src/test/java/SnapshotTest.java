@@ -186,9 +186,13 @@ public final class SnapshotTest {
         check.due("AT", x.at(0, 0), 4);
         check.due("none is held", x.receiver(0, 3), 0);
         check.due("2 is cancelled", x.order(0, 0, 0, 2), -1);
+        for (int packet = 5; packet <= 12; packet++) {
+            x.line(0, packet, 0);
+        }
         x.add(0, 9, 0, 9, 9);
-        x.publish();
-        check.due("what is new goes on", x.snapshotTurn(), 6);
+        check.due("what is new goes on", x.line(0, x.publish(), 0), 1);
+        check.due("AT", x.at(0, 0), 5);
+        check.due("the new order", x.order(0, 0, 0, 0), 9);
     }
 
     private static void onlyANeedIsCovered() {
