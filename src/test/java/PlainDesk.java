@@ -40,7 +40,8 @@ final class PlainDesk {
         List<Order> side(int side) {
             List<Order> out = new ArrayList<>();
             for (Order o : orders) if (o.side == side) out.add(o);
-            out.sort((a, b) -> a.price != b.price ? (side == 0 ? b.price - a.price : a.price - b.price) : a.came - b.came);
+            out.sort((a, b) -> a.price == b.price ? a.came - b.came
+                    : side == 0 ? b.price - a.price : a.price - b.price);
             return out;
         }
 

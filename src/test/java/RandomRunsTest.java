@@ -235,7 +235,9 @@ public final class RandomRunsTest {
                 same("order(" + rOrNone + ", " + i + ", " + side + ", " + k + ")", desk.order(rOrNone, i, side, k),
                         plain.order(rOrNone, i, side, k));
                 break;
-            case 6: same("halted(" + rOrNone + ", " + i + ")", desk.halted(rOrNone, i), plain.halted(rOrNone, i)); break;
+            case 6:
+                same("halted(" + rOrNone + ", " + i + ")", desk.halted(rOrNone, i), plain.halted(rOrNone, i));
+                break;
             case 7: same("dirty(" + r + ")", desk.dirty(r), plain.dirty(r)); break;
             default:
                 int part = about(0, 2);
