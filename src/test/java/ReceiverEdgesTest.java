@@ -21,6 +21,7 @@ public final class ReceiverEdgesTest {
         numberBehindAt();
         heldNumbers();
         thirtyHeld();
+        thirtyHeldThatDoNotFollow();
         thirtyOfEachInstrument();
         check.end();
     }
@@ -294,6 +295,32 @@ public final class ReceiverEdgesTest {
         check.due("the snapshot, with 29 held", y.hearSnapshot(1, 1, 0), 1);
         check.due("AT", y.at(1, 0), 30);
         state(y, 1, 12, 11, 0, 0);
+    }
+
+    private static void thirtyHeldThatDoNotFollow() {
+        check.sentence("HELD events, at most 30 (and a snapshot that none of them follows)");
+        FeedDesk x = new FeedDesk();
+        Feeds.clears(x, 0, 1);
+        x.snapshotTurn();
+        Feeds.clears(x, 0, 1);
+        Feeds.fullPackets(x, 0, 7);
+        Feeds.fullPackets(x, 1, 2);
+        x.line(0, 3, 0);
+        check.due("1 and 2", x.askReplay(0), 2);
+        check.due("too old", x.serveReplay(0), 2);
+        for (int packet = 4; packet <= 9; packet++) {
+            x.line(0, packet, 0);
+        }
+        state(x, 0, 10, 9, 0, 30);
+        check.due("the snapshot of event 1", x.hearSnapshot(1, 0, 0), 1);
+        check.due("AT: 2 is missing still", x.at(0, 0), 1);
+        state(x, 0, 10, 9, 0, 30);
+        for (int number = 2; number <= 5; number++) {
+            x.snapshotTurn();
+        }
+        check.due("the snapshot of all events", x.hearSnapshot(5, 0, 0), 1);
+        check.due("AT", x.at(0, 0), 37);
+        state(x, 0, 10, 9, 0, 0);
     }
 
     private static void thirtyOfEachInstrument() {
